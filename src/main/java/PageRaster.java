@@ -600,16 +600,15 @@ public final class PageRaster {
                         && preparePoint(1, operands[2], operands[3])
                         && preparePoint(2, operands[4], operands[5]);
                 case RECTANGLE:
-                    return prepareCorners(operands[0], operands[1],
-                        operands[0] + operands[2], operands[1] + operands[3]);
+                    int x = operands[0] + operands[2];
+                    int y = operands[1] + operands[3];
+                    return preparePoint(0, operands[0], operands[1])
+                        && preparePoint(1, x, operands[1])
+                        && preparePoint(2, x, y)
+                        && preparePoint(3, operands[0], y);
                 default:
                     return true;
             }
-        }
-
-        private boolean prepareCorners(int x0, int y0, int x1, int y1) {
-            return preparePoint(0, x0, y0) && preparePoint(1, x1, y0)
-                && preparePoint(2, x1, y1) && preparePoint(3, x0, y1);
         }
 
         private boolean preparePoint(int index, int x, int y) {
@@ -671,7 +670,11 @@ public final class PageRaster {
                     path.edgeTo(path.beginX, path.beginY);
                     break;
                 case RECTANGLE:
-                    addRectangle();
+                    path.begin(pointX[0], pointY[0]);
+                    path.edgeTo(pointX[1], pointY[1]);
+                    path.edgeTo(pointX[2], pointY[2]);
+                    path.edgeTo(pointX[3], pointY[3]);
+                    path.edgeTo(path.beginX, path.beginY);
                     break;
                 case CURVE:
                     addCurve(path.currentX, path.currentY);
@@ -701,14 +704,6 @@ public final class PageRaster {
                 default:
                     break;
             }
-        }
-
-        private void addRectangle() {
-            path.begin(pointX[0], pointY[0]);
-            for (int i = 1; i < 4; i++) {
-                path.edgeTo(pointX[i], pointY[i]);
-            }
-            path.edgeTo(path.beginX, path.beginY);
         }
 
         private void addCurve(int startX, int startY) {
