@@ -1,19 +1,28 @@
 /** Compares answers with those that are due, and ends a test with exit code 1 if one differs. */
 final class Check {
     private int wrong;
+    private String sentence = "";
+
+    /** Names the sentence of the document that the answers from here on are about. */
+    void says(String newSentence) {
+        sentence = newSentence;
+    }
 
     void due(String what, long got, long want) {
         if (got != want) {
-            wrong++;
-            System.out.println(what + " answered " + got + ", due is " + want);
+            tell(what + " answered " + got + ", due is " + want);
         }
     }
 
     void due(String what, String got, String want) {
         if (!got.equals(want)) {
-            wrong++;
-            System.out.println(what + " answered\n" + got + "\ndue is\n" + want);
+            tell(what + " answered\n" + got + "\ndue is\n" + want);
         }
+    }
+
+    private void tell(String line) {
+        wrong++;
+        System.out.println(sentence.isEmpty() ? line : "\"" + sentence + "\": " + line);
     }
 
     /** Draws the text on a page of 6 by 6 and looks at the fault's number and place. */
@@ -26,6 +35,11 @@ final class Check {
 
     void dueNoFault(String text) {
         dueFault(text, 0, -1);
+    }
+
+    /** The fault is that of the last operator, which stands at the end of the text. */
+    void dueFaultOfLast(String before, String operator, int number) {
+        dueFault(before + operator, number, before.length());
     }
 
     /** Draws a text without a fault and looks at all pixels: '.' white, '#' 0, else the grey's digit; top row first. */
@@ -78,6 +92,17 @@ final class Check {
             rows.append(y > 0 ? "\n" : "");
         }
         return rows.toString();
+    }
+
+    /** All that is told of the latest drawing but single pixels, in one line. */
+    static String counts(PageRaster raster) {
+        return "fault " + raster.fault() + " at " + raster.faultAt() + ", fills " + raster.fills() + ", edges "
+            + raster.edges() + ", depth " + raster.depth() + ", clipped " + raster.clipped();
+    }
+
+    /** The counts and all pixels; one more row and column shows where the page ends. */
+    static String told(PageRaster raster, int width, int height) {
+        return counts(raster) + ", white " + raster.area(255) + "\n" + picture(raster, width + 1, height + 1);
     }
 
     static String times(String part, int count) {
